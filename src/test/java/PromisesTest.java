@@ -1,0 +1,752 @@
+/** Promise by promise: ordinary calls, the edges that the document names, wrong calls; answers worked out by hand. */
+public final class PromisesTest {
+    private static final Check CHECK = new Check();
+    private static final int NONE = GooseBorder.NONE;
+
+    /* Of geese by paths, first: 0: 7, 22; 1: 8, 20; 2: 4, 10. */
+    private static final String BORDER =
+        "path 2 3 5; path 5 1 0; goose 3 2 1 0 10; goose 1 1 0 1 20; goose 4 4 9 0 30; cap 50;";
+
+    public static void main(String[] args) {
+        newObject();
+        tape();
+        texts();
+        faults();
+        borders();
+        marks();
+        deeds();
+        stops();
+        carried();
+        rainAndFrost();
+        foxes();
+        worn();
+        laws();
+        even();
+        richest();
+        tar();
+        lame();
+        game();
+        seen();
+        fits();
+        lacks();
+        who();
+        drawn();
+        alikeAndSpan();
+        split();
+        two();
+        backs();
+        close();
+        near();
+        shift();
+        thrift();
+        images();
+        CHECK.finish();
+    }
+
+    private static void due(String call, long got, long want) {
+        CHECK.due(call, got, want);
+    }
+
+    private static GooseBorder with(String border, String night) {
+        return Teller.told(border, night, null, null);
+    }
+
+    private static void newObject() {
+        GooseBorder x = new GooseBorder();
+        for (int sort = 0; sort < 4; sort++) {
+            due("count of a new one", x.count(sort), 0);
+        }
+        due("count of sort 4", x.count(4), -2);
+        due("count of sort -1", x.count(-1), -2);
+        due("tape of a new one", x.end(1), NONE);
+        due("fault of a new one", x.fault(0), 0);
+        due("place of a new one", x.fault(1), NONE);
+        due("fault 2", x.fault(2), NONE);
+        due("fault -1", x.fault(-1), NONE);
+        for (int k = -1; k < 4; k++) {
+            CHECK.due("again " + k, x.again(k), false);
+        }
+        due("NONE", NONE, -1);
+    }
+
+    private static void tape() {
+        GooseBorder x = new GooseBorder();
+        for (int i = 1; i <= 30; i++) {
+            due("feed " + i, x.feed(0x20202020, 0x0a0a0a0a, 0x20202020, 0x0a200a20, 0x20202020), 20 * i);
+        }
+        due("feed of a full tape", x.feed(1, 2, 3, 4, 5), NONE);
+        due("end of all", x.end(600), 600);
+        due("end of more", x.end(601), NONE);
+        due("end below 0", x.end(-1), NONE);
+        due("end", x.end(581), 581);
+        due("feed of 21 too few", x.feed(0, 0, 0, 0, 0), NONE);
+        due("the tape stays", x.end(581), 581);
+        due("end of more than is left", x.end(582), NONE);
+        due("end", x.end(580), 580);
+        due("feed", x.feed(0x20202020, 0x20202020, 0x20202020, 0x20202020, 0x20202020), 600);
+        due("blanks alone are a text", x.text(0, -1), 0);
+        due("the tape is empty", x.end(1), NONE);
+        due("feed of an empty tape", x.feed(0x63617020, 0x373b8080, 0, 0, 0), 20);
+        due("the highest byte comes first", x.end(6), 6);
+        due("cap 7", x.text(0, 0), 0);
+        due("cap 7", x.border(0, 2), 7);
+    }
+
+    private static void texts() {
+        GooseBorder x = new GooseBorder();
+        due("in the place of none", Teller.tell(x, 0, 0, "cap 1;"), -2);
+        due("no text is read", x.end(6), 6);
+        due("no such sort", x.text(4, -1), -2);
+        due("no such sort", x.text(-1, -1), -2);
+        due("no such place", x.text(0, -2), -2);
+        due("first", x.text(0, -1), 0);
+        due("second", Teller.tell(x, 0, -1, "cap 2;"), 1);
+        due("third", Teller.tell(x, 0, -1, "cap 3;"), -2);
+        due("place 2", x.text(0, 2), -2);
+        due("in its place", x.text(0, 0), 0);
+        due("cap 3", x.border(0, 2), 3);
+        due("cap 2", x.border(1, 2), 2);
+        due("a fault", Teller.tell(x, 0, 1, "cap 5; cap;"), NONE);
+        due("the old one stays", x.border(1, 2), 2);
+        due("fault", x.fault(0), 1);
+        due("place", x.fault(1), 10);
+        due("taken all the same", x.end(1), NONE);
+        due("none such", x.text(0, 2), -2);
+        due("no fault then", x.fault(0), 0);
+        due("no place then", x.fault(1), NONE);
+        for (int sort = 1; sort < 4; sort++) {
+            due("first of " + sort, Teller.tell(x, sort, -1, ""), 0);
+            due("second of " + sort, Teller.tell(x, sort, -1, " \n"), 1);
+            due("third of " + sort, Teller.tell(x, sort, -1, ""), -2);
+            due("count of " + sort, x.count(sort), 2);
+        }
+    }
+
+    private static void fault(int sort, String text, int fault, int place) {
+        GooseBorder x = new GooseBorder();
+        due("'" + text + "'", Teller.tell(x, sort, -1, text), fault == 0 ? 0 : NONE);
+        due("fault of '" + text + "'", x.fault(0), fault);
+        due("place in '" + text + "'", x.fault(1), place);
+    }
+
+    private static void faults() {
+        fault(0, "path2 3 5;goose1 2 3 1 9;cap9;", 0, NONE);
+        fault(0, "path 020 009 9\n;", 0, NONE);
+        fault(0, "path 20 9 9", 1, 11);
+        fault(0, "path 20 9 9  ", 1, 13);
+        fault(0, "path 21 9 9 ", 1, 12);
+        fault(0, "pathx 1 1 1;", 1, 0);
+        fault(0, "path 1 1 x;", 1, 9);
+        fault(0, "path 1 1 0001;", 1, 9);
+        fault(0, ";", 1, 0);
+        fault(0, "cap 1;;", 1, 6);
+        fault(0, "cap\t1;", 1, 3);
+        fault(0, "march 0 0;", 1, 0);
+        fault(0, "cap 1 1;", 1, 6);
+        fault(0, "\0", 1, 0);
+        fault(0, "path 21 10 10;", 2, 5);
+        fault(0, "path 0 0 0; x", 1, 12);
+        fault(0, "goose 5 0 0 0 0;", 2, 6);
+        fault(0, "goose 4 5 0 0 0;", 2, 8);
+        fault(0, "goose 4 4 60 1 99;goose 4 4 60 1 100;", 2, 33);
+        String five = "path 0 1 1;".repeat(5);
+        fault(0, five, 2, 5);
+        fault(0, "path 1 1 1;".repeat(5) + "path 0 1 1;", 3, 55);
+        fault(0, "path 1 1 1;".repeat(4) + "path 0 1 1;path 1 1 1;", 2, 49);
+        fault(0, "cap 1;".repeat(50), 0, NONE);
+        fault(0, "goose 0 0 0 0 0;".repeat(8), 0, NONE);
+        fault(1, "carry 8 8 0;", 2, 6);
+        fault(1, "carry 1 8 5;", 2, 8);
+        fault(1, "carry 1 0 5;", 2, 10);
+        fault(1, "carry 1 1 5;", 2, 8);
+        fault(1, "march 8 0;", 2, 6);
+        fault(1, "back 7 5;", 2, 7);
+        fault(1, "home 8 5;", 2, 5);
+        fault(1, "recast 7 61;", 2, 9);
+        fault(1, "rain 10;rain 11;", 2, 13);
+        fault(1, "fox 5;", 2, 4);
+        fault(1, "thaw;".repeat(24), 0, NONE);
+        fault(1, "thaw;".repeat(25), 3, 120);
+        fault(1, "thaw;".repeat(25) + "fox 9;", 3, 120);
+        fault(1, "thaw;".repeat(120), 3, 120);
+        fault(2, "each 9;above 999 99;below 999 99;odd 99;most 999;", 0, NONE);
+        fault(2, "odd 100;", 2, 4);
+        fault(2, "below 9 100;", 2, 8);
+        fault(2, "each 1;".repeat(9), 3, 56);
+        fault(3, "left 4 999;left 0 0;", 0, NONE);
+        fault(3, "left 4 999;left 4 999; ", 4, 23);
+        fault(3, "left 5 1;left 5 1;", 2, 5);
+        fault(3, "left 0 1;left 1 1;left 2 1;left 3 1;left 4 1;left 0 1;", 3, 45);
+    }
+
+    private static void borders() {
+        GooseBorder x = with("path 20 9 8;path 1 0 7;goose 4 3 60 1 99;goose 0 1 2 0 5;cap 9;cap 8;", "");
+        int[][] wants = {{0, 2}, {1, 2}, {2, 8}, {10, 20}, {11, 1}, {20, 9}, {21, 0}, {30, 8}, {31, 7}, {40, 4},
+            {41, 0}, {50, 3}, {51, 1}, {60, 60}, {61, 2}, {70, 1}, {71, 0}, {80, 99}, {81, 5}};
+        for (int[] want : wants) {
+            due("border " + want[0], x.border(0, want[0]), want[1]);
+        }
+        for (int what : new int[] {-1, 3, 9, 12, 19, 22, 32, 39, 42, 52, 62, 72, 82, 89, 90, Integer.MIN_VALUE}) {
+            due("border " + what, x.border(0, what), -2);
+        }
+        due("no such border", x.border(1, 0), -2);
+        due("no such border", x.border(-1, 0), -2);
+        due("no cap", with("", "").border(0, 2), NONE);
+    }
+
+    private static void marks() {
+        GooseBorder x = with("path 3 1 0;goose 0 0 2 0 0;goose 4 4 0 1 0;goose 4 0 1 1 0;", "");
+        due("boots on no toes", x.marks(0, 0, 0, false), 4);
+        due("no toes in frost", x.marks(0, 0, 0, true), 0);
+        due("limping toes", x.marks(0, 1, 0, false), 48);
+        due("limping toes in frost", x.marks(0, 1, 0, true), 48);
+        due("limping in boots", x.marks(0, 2, 0, false), 20);
+        due("limping in boots, in frost", x.marks(0, 2, 0, true), 16);
+        for (int wrong : new int[] {-1, 3, 9}) {
+            due("marks of goose " + wrong, x.marks(0, wrong, 0, false), NONE);
+            due("marks on path " + wrong, x.marks(0, 0, wrong, false), NONE);
+            due("marks of border " + wrong, x.marks(wrong, 0, 0, true), NONE);
+        }
+    }
+
+    private static void deeds() {
+        String night = "march 1 2;back 3 4;home 5 0;carry 7 6 1;recast 2 33;rain 10;frost;thaw;fox 4;";
+        GooseBorder x = with("", night);
+        int[][] wants = {{0, 1, 2, -1}, {1, 3, 4, -1}, {2, 5, 0, -1}, {3, 7, 6, 1}, {4, 2, 33, -1}, {5, 10, -1, -1},
+            {6, -1, -1, -1}, {7, -1, -1, -1}, {8, 4, -1, -1}};
+        due("deeds", x.deed(0, -1, 0), 9);
+        for (int k = 0; k < 9; k++) {
+            for (int what = 0; what < 4; what++) {
+                due("deed " + k + " " + what, x.deed(0, k, what), wants[k][what]);
+            }
+        }
+        int[][] wrong = {{0, -1, 1}, {0, -2, 0}, {0, 9, 0}, {0, 0, 4}, {0, 0, -1}, {1, -1, 0}, {-1, 0, 0}};
+        for (int[] w : wrong) {
+            due("deed of none", x.deed(w[0], w[1], w[2]), -2);
+        }
+    }
+
+    private static int stopOf(String night) {
+        return with(BORDER, night).stop(0, 0);
+    }
+
+    private static void stops() {
+        due("no deeds", stopOf(""), 0);
+        due("all", stopOf("march 0 0;home 0 1;back 0 0;home 0 0;march 0 1;"), 5);
+        due("no such goose", stopOf("rain 1;march 3 0;"), 1);
+        due("no such path", stopOf("frost;thaw;march 0 2;"), 2);
+        due("march when over", stopOf("march 0 0;march 0 0;"), 1);
+        due("back when over", stopOf("march 0 0;back 0 0;"), 1);
+        due("home when home", stopOf("home 0 0;"), 0);
+        due("carry when over", stopOf("march 0 0;carry 0 1 0;"), 1);
+        due("carry one who is over", stopOf("march 1 0;carry 0 1 0;"), 1);
+        due("carry one who is not there", stopOf("carry 0 3 0;"), 0);
+        due("carry by no path", stopOf("carry 0 1 2;"), 0);
+        due("the carried one goes home", stopOf("carry 0 1 0;home 1 0;"), 2);
+        due("recast anywhere", stopOf("recast 0 5;march 0 0;recast 0 5;"), 3);
+        due("recast no such goose", stopOf("recast 3 5;"), 0);
+        due("recast one who is eaten", stopOf("march 0 0;fox 0;recast 0 5;"), 2);
+        due("fox where nobody went", stopOf("march 0 0;fox 1;"), 1);
+        due("fox where all are eaten", stopOf("march 0 0;fox 0;fox 0;"), 2);
+        due("fox by no path", stopOf("fox 2;"), 0);
+        due("one who is eaten", stopOf("march 0 0;fox 0;home 0 0;"), 2);
+        GooseBorder x = with(BORDER, "march 0 0;march 0 0;");
+        due("stop of none", x.stop(1, 0), NONE);
+        due("stop of none", x.stop(0, 1), NONE);
+        due("stop of none", x.stop(-1, 0), NONE);
+        due("state behind stop", x.state(0, 0, 1, 0), 6);
+        due("state beyond stop", x.state(0, 0, 2, 0), -2);
+        due("state below 0", x.state(0, 0, -1, 0), -2);
+        due("state what", x.state(0, 0, 0, 9), -2);
+        due("state what", x.state(0, 0, 0, -1), -2);
+        due("goose beyond stop", x.goose(0, 0, 2, 0, 0), -2);
+        due("goose what", x.goose(0, 0, 1, 0, 4), -2);
+        due("goose 3", x.goose(0, 0, 1, 3, 0), -2);
+        due("path beyond stop", x.path(0, 0, 2, 0, 0), -2);
+        due("path what", x.path(0, 0, 1, 0, 6), -2);
+        due("path 2", x.path(0, 0, 1, 2, 0), -2);
+        due("path of no border", x.path(1, 0, 1, 0, 0), -2);
+        due("goose of no night", x.goose(0, 1, 1, 0, 0), -2);
+    }
+
+    private static void carried() {
+        GooseBorder x = with(BORDER, "carry 2 0 1;home 0 0;");
+        due("who carries is over", x.goose(0, 0, 1, 2, 0), 1);
+        due("who is carried is over", x.goose(0, 0, 1, 0, 0), 1);
+        due("who carries wears boots", x.goose(0, 0, 1, 2, 1), 4);
+        due("who is carried wears none", x.goose(0, 0, 1, 0, 1), 1);
+        due("who carries leaves", x.goose(0, 0, 1, 2, 2), 10);
+        due("who is carried leaves nothing", x.goose(0, 0, 1, 0, 2), 0);
+        due("who is carried went, too", x.goose(0, 0, 1, 0, 3), 1);
+        due("who has not gone", x.goose(0, 0, 1, 1, 3), NONE);
+        due("marks", x.path(0, 0, 1, 1, 0), 10);
+        due("exports of going home", x.path(0, 0, 2, 0, 1), 7);
+        due("no tally below 0", x.path(0, 0, 2, 0, 2), 0);
+        due("home", x.state(0, 0, 2, 0), 3);
+        due("worth of who is home", x.state(0, 0, 2, 3), 30);
+        due("worth of who is over", x.state(0, 0, 2, 4), 30);
+        due("nobody is eaten", x.state(0, 0, 2, 5), 0);
+    }
+
+    private static void rainAndFrost() {
+        GooseBorder x = with(BORDER, "march 1 0;back 0 0;rain 3;frost;march 2 1;thaw;home 1 1;rain 10;");
+        due("marks", x.path(0, 0, 2, 0, 0), 8);
+        due("exports", x.path(0, 0, 2, 0, 1), 7);
+        due("tally", x.path(0, 0, 2, 0, 2), 1);
+        due("marks in rain", x.path(0, 0, 3, 0, 0), 6);
+        due("exports in rain", x.path(0, 0, 3, 0, 1), 5);
+        due("washed away", x.path(0, 0, 3, 0, 5), 4);
+        due("frost", x.state(0, 0, 4, 8), 1);
+        due("boots leave nothing in frost", x.path(0, 0, 5, 1, 0), 0);
+        due("boots wear in frost", x.goose(0, 0, 5, 2, 1), 4);
+        due("thaw", x.state(0, 0, 6, 8), 0);
+        due("no frost", x.path(0, 0, 7, 1, 1), 20);
+        due("trail of all", x.goose(0, 0, 7, 1, 2), 28);
+        due("all washed away", x.path(0, 0, 8, 1, 5), 20);
+        due("all washed away", x.path(0, 0, 8, 0, 5), 15);
+        due("the trail stays", x.goose(0, 0, 8, 1, 2), 28);
+        due("padded", with(BORDER, "march 0 0;").path(0, 0, 1, 0, 3), 10);
+        due("pay", with(BORDER, "march 0 0;march 1 1;").state(0, 0, 2, 7), 50);
+    }
+
+    private static void foxes() {
+        GooseBorder x = with(BORDER, "march 0 0;march 1 0;home 0 1;fox 0;fox 0;fox 1;");
+        due("the latest by that path", x.state(0, 0, 4, 2), 2);
+        due("the next, wherever it is", x.state(0, 0, 5, 2), 3);
+        due("worth of the eaten", x.state(0, 0, 5, 5), 30);
+        due("nobody is left", x.stop(0, 0), 5);
+        GooseBorder again = with(BORDER, "march 0 0;march 1 0;home 0 0;fox 0;");
+        due("its latest going counts", again.state(0, 0, 4, 2), 1);
+        GooseBorder carried = with(BORDER, "march 0 0;carry 1 2 0;fox 0;fox 0;fox 0;");
+        due("who carries is eaten, not who is carried", carried.state(0, 0, 3, 2), 2);
+        due("then who went ahead", carried.state(0, 0, 4, 2), 3);
+        due("never who was carried", carried.stop(0, 0), 4);
+        due("it stays over", carried.state(0, 0, 4, 1), 4);
+    }
+
+    private static void worn() {
+        GooseBorder x = with(BORDER, "march 0 0;march 1 0;recast 0 2;recast 1 0;home 0 0;");
+        due("nobody at first", x.state(0, 0, 0, 6), 0);
+        due("worn through", x.state(0, 0, 1, 6), 1);
+        due("never had some", x.state(0, 0, 2, 6), 1);
+        due("recast", x.state(0, 0, 3, 6), 0);
+        due("recast with none", x.state(0, 0, 4, 6), 2);
+        due("recast boots wear", x.state(0, 0, 5, 6), 3);
+        due("recast boots leave marks", x.path(0, 0, 5, 0, 1), 4);
+    }
+
+    private static void laws() {
+        GooseBorder x = Teller.told(null, null, "each 2;above 20 5;most 45;below 3 7;odd 4;", null);
+        int[][] wants = {{0, 7}, {1, 13}, {2, 11}, {3, 10}, {20, 40}, {21, 49}, {22, 45}, {9999, 49}};
+        for (int[] want : wants) {
+            due("pays " + want[0], x.pays(0, want[0]), want[1]);
+        }
+        due("pays -1", x.pays(0, -1), NONE);
+        due("pays 10000", x.pays(0, 10000), NONE);
+        due("pays by none", x.pays(1, 0), NONE);
+        int[][] terms = {{0, 2, -1}, {1, 20, 5}, {4, 45, -1}, {2, 3, 7}, {3, 4, -1}};
+        due("terms", x.term(0, -1, 0), 5);
+        for (int k = 0; k < 5; k++) {
+            for (int what = 0; what < 3; what++) {
+                due("term " + k + " " + what, x.term(0, k, what), terms[k][what]);
+            }
+        }
+        int[][] wrong = {{0, -1, 1}, {0, -2, 0}, {0, 5, 0}, {0, 0, 3}, {0, 0, -1}, {1, -1, 0}, {-1, 0, 0}};
+        for (int[] w : wrong) {
+            due("term of none", x.term(w[0], w[1], w[2]), -2);
+        }
+        due("no terms", Teller.told(null, null, "", null).pays(0, 9), 0);
+    }
+
+    private static void even() {
+        GooseBorder x = with(BORDER, "");
+        int[][] wants = {{0, 0}, {10, 0}, {11, 1}, {12, 1}, {20, 30}, {21, 30}, {13, -1}, {22, -1}, {1, -1}, {9, -1},
+            {19, -1}, {-1, -1}};
+        for (int[] want : wants) {
+            due("even " + want[0], x.even(0, want[0]), want[1]);
+        }
+        due("even of none", x.even(1, 0), NONE);
+        GooseBorder alike = with("path 1 1 0;path 1 1 0;" + "goose 1 0 0 0 0;".repeat(6), "");
+        due("even 0", alike.even(0, 0), 0);
+        for (int g = 0; g < 6; g++) {
+            due("the first row, goose " + g, alike.even(0, 10 + g), g / 3);
+        }
+        due("7 geese", with("path 1 1 0;" + "goose 1 0 0 0 0;".repeat(7), "").even(0, 0), NONE);
+        due("no paths", with("goose 1 0 0 0 0;", "").even(0, 0), NONE);
+        due("no geese", with("path 1 1 0;path 2 2 2;", "").even(0, 0), 0);
+        due("no geese, pay", with("path 1 1 0;path 2 2 2;", "").even(0, 21), 0);
+    }
+
+    private static void richest() {
+        GooseBorder x = Teller.told(BORDER, null, "each 1;most 40;odd 1;", null);
+        /* rows by what is padded: 0 0 1: 15 + 7 = 22 and 10; 0 1 1: 10 and 30; 1 0 1: 12 and 32;
+           1 1 0: 6 and 40 of 42; 1 1 1: 40 of 52; 0 1 0: 16 and 20; 0 0 0: 28; 1 0 0: 18 and 22 */
+        due("richest", x.richest(0, 0, 0), 46);
+        due("richest goose 0", x.richest(0, 0, 10), 1);
+        due("richest goose 1", x.richest(0, 0, 11), 1);
+        due("richest goose 2", x.richest(0, 0, 12), 0);
+        due("richest goose 3", x.richest(0, 0, 13), NONE);
+        due("richest 20", x.richest(0, 0, 20), NONE);
+        due("richest 1", x.richest(0, 0, 1), NONE);
+        due("no such law", x.richest(0, 1, 0), NONE);
+        due("no such border", x.richest(1, 0, 0), NONE);
+        GooseBorder empty = Teller.told("path 1 0 0;path 1 0 0;", null, "below 5 9;", null);
+        due("paid for nothing", empty.richest(0, 0, 0), 18);
+        GooseBorder many = Teller.told("path 1 1 0;" + "goose 1 0 0 0 0;".repeat(7), null, "", null);
+        due("7 geese", many.richest(0, 0, 0), NONE);
+        due("no paths", Teller.told("", null, "", null).richest(0, 0, 0), NONE);
+    }
+
+    private static void tar() {
+        GooseBorder x = with(BORDER, "");
+        int[][] wants = {{9999, 0}, {34, 0}, {33, 1}, {28, 1}, {27, 2}, {22, 2}, {21, 3}, {19, 3}, {18, 4}, {16, 4},
+            {15, -1}, {0, -1}, {-1, -1}, {10000, -1}};
+        for (int[] want : wants) {
+            due("tar " + want[0], x.tar(0, 0, want[0]), want[1]);
+        }
+        due("tar of none", x.tar(0, 2, 5), NONE);
+        due("tar of none", x.tar(1, 0, 5), NONE);
+        due("boots are no good for it", with("path 9 1 1;goose 1 0 0 1 0;", "").tar(0, 0, 17), NONE);
+        due("no geese", with("path 9 1 1;", "").tar(0, 0, 0), 0);
+        due("limping ones first", with("path 2 1 1;goose 2 1 0 1 0;goose 2 1 0 0 0;", "").tar(0, 0, 14), 2);
+    }
+
+    private static void lame() {
+        GooseBorder x = with(BORDER, "");
+        due("lame 0", x.lame(0, 0, -1), 18);
+        due("lame 1", x.lame(0, 1, -1), 10);
+        due("lame 2", x.lame(0, 2, -1), NONE);
+        due("lame of none", x.lame(1, 0, -1), NONE);
+        due("best of 0", x.lame(0, 77, 0), 0);
+        due("best of 1", x.lame(0, -1, 1), 0);
+        due("best of 3", x.lame(0, 0, 3), NONE);
+        due("no paths", with("goose 1 1 1 1 1;", "").lame(0, 0, 0), NONE);
+        GooseBorder other = with("path 1 0 0;path 2 1 0;path 1 2 0;goose 1 1 0 0 0;goose 0 0 0 0 0;", "");
+        due("of several the least", other.lame(0, 0, 0), 1);
+        due("paid nothing at all", other.lame(0, 0, 1), 0);
+        due("goose 8 is none: of the path", other.lame(0, 1, 8), 0);
+    }
+
+    private static void game() {
+        String night = "march 0 0;march 1 1;";
+        GooseBorder x = with(BORDER, night);
+        due("rest", x.rest(0, 0, -1), 2);
+        due("rest 0", x.rest(0, 0, 0), 1);
+        due("rest 1", x.rest(0, 0, 1), 3);
+        due("rest 2", x.rest(0, 0, 2), -2);
+        due("rest -2", x.rest(0, 0, -2), -2);
+        due("rest of none", x.rest(1, 0, -1), -2);
+        due("rest of none", x.rest(0, 1, -1), -2);
+        due("take", x.take(0, 0, 1, 0), 30);
+        due("take", x.take(0, 0, 0, 0), 21);
+        due("take of set 4", x.take(0, 0, 4, 0), NONE);
+        due("take of set -1", x.take(0, 0, -1, 0), NONE);
+        due("take of path 2", x.take(0, 0, 0, 2), NONE);
+        due("take of none", x.take(1, 0, 0, 0), NONE);
+        due("take of none", x.take(0, 1, 0, 0), NONE);
+        GooseBorder caught = with(BORDER.replace("50", "49"), night);
+        due("above the cap", caught.take(0, 0, 1, 0), 0);
+        due("who does not pad gets his", caught.take(0, 0, 1, 1), 20);
+        due("rest is not to pad", caught.rest(0, 0, -1), 2);
+        due("rest is not to pad", caught.rest(0, 0, 0), 0);
+        due("rest is not to pad", caught.rest(0, 0, 1), 2);
+        GooseBorder free = with(BORDER.replace("cap 50;", ""), night);
+        due("no cap", free.take(0, 0, 3, 0), 30);
+        due("cap 0", with(BORDER.replace("50", "0"), night).take(0, 0, 3, 1), 0);
+        due("no paths", with("", "").rest(0, 0, -1), 1);
+        due("no paths", with("", "").rest(0, 0, 0), 0);
+        due("honest", x.honest(0, 0, 0), 9);
+        due("honest without a pad", x.honest(0, 0, 1), 0);
+        due("honest of none", x.honest(0, 0, 2), NONE);
+        due("honest of none", x.honest(0, 1, 0), NONE);
+        due("honest of none", x.honest(1, 0, 0), NONE);
+    }
+
+    private static void seen() {
+        GooseBorder x = Teller.told(null, null, null, "left 4 999;left 0 0;");
+        due("seen", x.seen(0, -1, 0), 2);
+        due("seen 0", x.seen(0, 0, 0), 4);
+        due("seen 0", x.seen(0, 0, 1), 999);
+        due("seen 1", x.seen(0, 1, 0), 0);
+        due("seen 1", x.seen(0, 1, 1), 0);
+        int[][] wrong = {{0, -1, 1}, {0, -1, -1}, {0, -2, 0}, {0, 2, 0}, {0, 0, 2}, {0, 0, -1}, {1, -1, 0}, {-1, 0, 0}};
+        for (int[] w : wrong) {
+            due("seen of none", x.seen(w[0], w[1], w[2]), -2);
+        }
+    }
+
+    private static GooseBorder dawn(String border, String dawn) {
+        return Teller.told(border, null, null, dawn);
+    }
+
+    private static void fits() {
+        GooseBorder x = dawn(BORDER, "left 0 11;left 1 20;");
+        due("fits", x.fits(0, 0), 1);
+        due("fits of none", x.fits(1, 0), NONE);
+        due("fits of none", x.fits(0, 1), NONE);
+        due("fewest", x.told(0, 0, 0), 3);
+        due("most", x.told(0, 0, 1), 3);
+        due("sure", x.told(0, 0, 2), 7);
+        due("toe", x.told(0, 0, 3), 1);
+        due("by of 0", x.told(0, 0, 10), 1);
+        due("by of 1", x.told(0, 0, 11), 2);
+        due("by of 3", x.told(0, 0, 13), -2);
+        due("told 4", x.told(0, 0, 4), -2);
+        due("told -1", x.told(0, 0, -1), -2);
+        due("told of none", x.told(1, 0, 3), -2);
+        due("told of none", x.told(0, 1, 3), -2);
+        GooseBorder none = dawn(BORDER, "left 0 5;left 1 10;");
+        due("no way", none.fits(0, 0), 0);
+        due("no way", none.told(0, 0, 0), -2);
+        due("no way", none.told(0, 0, 10), -2);
+        due("but toe", none.told(0, 0, 3), 2);
+        due("no toe", dawn(BORDER, "left 0 1;").told(0, 0, 3), NONE);
+        GooseBorder three = dawn("path 1 1 0;" + "goose 1 0 0 0 0;".repeat(3) + "goose 2 0 0 0 0;", "left 0 2;");
+        due("several ways", three.fits(0, 0), 4);
+        due("fewest", three.told(0, 0, 0), 1);
+        due("most", three.told(0, 0, 1), 2);
+        due("sure", three.told(0, 0, 2), 0);
+        due("by", three.told(0, 0, 13), 1);
+        GooseBorder toeless = dawn("path 1 1 0;".repeat(5) + "goose 0 0 0 0 0;".repeat(8),
+            "left 0 0;left 1 0;left 2 0;left 3 0;left 4 0;");
+        due("all ways there are", toeless.fits(0, 0), 1679616);
+        due("by any path", toeless.told(0, 0, 17), 31);
+        due("nothing is seen", dawn(BORDER, "").fits(0, 0), 1);
+        due("nobody went", dawn(BORDER, "").told(0, 0, 1), 0);
+        due("a path that is not there", dawn(BORDER, "left 3 1;").fits(0, 0), 0);
+        due("a path that is not there, with nothing", dawn(BORDER, "left 3 0;").fits(0, 0), 1);
+        due("nobody goes by it", dawn(BORDER, "left 3 0;").told(0, 0, 10), 0);
+    }
+
+    private static void lacks() {
+        GooseBorder x = Teller.told(BORDER, "march 0 0;march 1 1;", null, "left 0 7;left 1 19;");
+        due("lacks", x.lacks(0, 0, 0), 2);
+        due("lacks of none", x.lacks(1, 0, 0), NONE);
+        due("lacks of none", x.lacks(0, 1, 0), NONE);
+        due("lacks of none", x.lacks(0, 0, 1), NONE);
+        due("second dawn", Teller.tell(x, 3, -1, "left 1 20;left 4 0;"), 1);
+        due("nothing is left where nothing is seen", x.lacks(0, 0, 1), 1);
+    }
+
+    private static void who() {
+        GooseBorder x = with(BORDER, "march 1 0;rain 5;march 0 0;carry 2 1 0;");
+        due("stop", x.stop(0, 0), 3);
+        due("tally", x.path(0, 0, 3, 0, 2), 11);
+        due("without the first", x.who(0, 0, 0, 7), 0);
+        due("without the second", x.who(0, 0, 0, 4), 2);
+        due("nobody", x.who(0, 0, 0, 11), NONE);
+        due("nobody", x.who(0, 0, 1, 0), NONE);
+        due("who of none", x.who(0, 0, 2, 0), NONE);
+        due("who of none", x.who(1, 0, 0, 0), NONE);
+        due("who of none", x.who(0, 1, 0, 0), NONE);
+        GooseBorder carried = with(BORDER, "carry 2 1 0;march 0 0;");
+        due("a carry is no march", carried.who(0, 0, 0, 7), NONE);
+        due("a march behind it", carried.who(0, 0, 0, 4), 1);
+        GooseBorder rain = with("path 1 1 0;goose 4 4 0 0 0;goose 4 3 0 0 0;", "march 0 0;march 1 0;rain 5;");
+        due("rain cuts what is there", rain.who(0, 0, 0, 4), 0);
+        GooseBorder several = with("path 1 1 0;goose 1 1 0 0 0;goose 1 1 0 0 0;", "march 0 0;march 1 0;");
+        due("of several the first", several.who(0, 0, 0, 2), 0);
+        due("boots as they came", with("path 1 1 0;goose 4 4 1 0 0;", "march 0 0;home 0 0;march 0 0;").who(0, 0, 0, 0), 0);
+    }
+
+    private static void drawn() {
+        GooseBorder x = with("path 1 1 9;goose 1 1 0 0 0;", "");
+        /* seed 0: x = 12345 : 0; then 3554416254 : 54236, 54236 % 11 = 6 tenths; then 2802067423 : 42756, 6 < 9 */
+        due("tallies: 1 of 2 is washed away", x.drawn(0, 0, 1, 0), 1);
+        due("pay", x.drawn(0, 0, 1, 1), 1);
+        due("children", x.drawn(0, 0, 1, 2), 1);
+        due("tallies of path 0", x.drawn(0, 0, 1, 10), 1);
+        due("trails of goose 0", x.drawn(0, 0, 1, 20), 2);
+        due("trails of 20 nights", x.drawn(0, 0, 20, 20), 40);
+        for (int what : new int[] {-1, 3, 9, 11, 19, 21, 28}) {
+            due("drawn " + what, x.drawn(0, 0, 1, what), NONE);
+        }
+        due("no nights", x.drawn(0, 0, 0, 0), NONE);
+        due("21 nights", x.drawn(0, 0, 21, 0), NONE);
+        due("drawn of none", x.drawn(1, 0, 1, 0), NONE);
+        due("no paths", with("goose 1 1 0 0 0;", "").drawn(0, 0, 1, 0), NONE);
+        due("boots as new", with("path 1 1 9;goose 4 4 1 0 0;", "").drawn(0, -5, 20, 20), 40);
+    }
+
+    private static void alikeAndSpan() {
+        GooseBorder x = with("path 2 1 0;path 3 1 0;goose 1 1 0 0 0;goose 4 4 2 0 0;goose 4 0 0 0 0;", "");
+        /* by paths: 4, 6; 4, 12; 8, 12 */
+        due("alike 0 1", x.alike(0, 0, 1), 1);
+        due("alike 2 1", x.alike(0, 2, 1), 2);
+        due("alike 0 2", x.alike(0, 0, 2), 0);
+        due("alike 1 1", x.alike(0, 1, 1), NONE);
+        due("alike 0 3", x.alike(0, 0, 3), NONE);
+        due("alike -1 0", x.alike(0, -1, 0), NONE);
+        due("alike of none", x.alike(1, 0, 1), NONE);
+        due("span 0", x.span(0, 1, 0, true), 0);
+        due("span 1", x.span(0, 1, 1, false), 6);
+        due("span 1, most", x.span(0, 1, 1, true), 12);
+        due("span 2", x.span(0, 1, 2, false), 18);
+        due("span 2, most", x.span(0, 1, 2, true), 24);
+        due("span 3", x.span(0, 1, 3, false), 30);
+        due("span 4", x.span(0, 1, 4, false), NONE);
+        due("span -1", x.span(0, 1, -1, true), NONE);
+        due("span of none", x.span(0, 2, 1, false), NONE);
+        due("span of none", x.span(1, 0, 1, false), NONE);
+    }
+
+    private static void split() {
+        GooseBorder x = with(BORDER, "");
+        due("split", x.split(0, 0, 1, false), 3);
+        due("split apart", x.split(0, 0, 1, true), 5);
+        due("the other way", x.split(0, 1, 0, false), 4);
+        due("split 0 0", x.split(0, 0, 0, false), NONE);
+        due("split 0 2", x.split(0, 0, 2, false), NONE);
+        due("split of none", x.split(1, 0, 1, true), NONE);
+        GooseBorder alike = with("path 1 1 0;path 1 1 0;goose 1 0 0 0 0;goose 1 0 0 0 0;", "");
+        due("of several the least", alike.split(0, 0, 1, false), 1);
+        due("no geese", with("path 1 1 0;path 1 1 0;", "").split(0, 0, 1, true), 0);
+    }
+
+    private static void two() {
+        GooseBorder x = with("path 2 1 5;path 1 2 0;goose 4 4 2 0 0;", "");
+        due("other", Teller.tell(x, 0, -1, "path 1 1 0;path 1 9 0;"), 1);
+        /* 0 first: 4 marks, 6 pence, no boots left: 8 or 72; 1 first: 2 marks, 4 pence, boots for 1 mile: 2 or 18 */
+        due("first path", x.two(0, 0, 1, 0), 0);
+        due("second path", x.two(0, 0, 1, 1), 1);
+        due("pay", x.two(0, 0, 1, 2), 78);
+        /* 0 0: 6 and 24; 0 1: 6 and 16; 1 0: 4 and 15 */
+        due("of the same border", x.two(0, 0, 0, 2), 30);
+        due("first path", x.two(0, 0, 0, 0), 0);
+        due("second path", x.two(0, 0, 0, 1), 0);
+        due("no such goose", x.two(1, 0, 0, 0), NONE);
+        due("no such border", x.two(0, 0, 2, 0), NONE);
+        due("no such border", x.two(-1, 0, 0, 0), NONE);
+        due("two 3", x.two(0, 0, 0, 3), NONE);
+        due("two -1", x.two(0, 0, 0, -1), NONE);
+        due("a border without paths", Teller.tell(x, 0, 1, ""), 1);
+        due("a border without paths", x.two(0, 0, 1, 0), NONE);
+        due("a border without paths", x.two(0, 0, 1, 2), NONE);
+        GooseBorder alike = with("path 1 0 0;path 1 0 0;goose 1 1 1 1 1;", "");
+        due("the first by rows", alike.two(0, 0, 0, 0), 0);
+        due("the first by rows", alike.two(0, 0, 0, 1), 0);
+        due("paid nothing", alike.two(0, 0, 0, 2), 0);
+    }
+
+    private static void backs() {
+        GooseBorder x = with(BORDER, "");
+        /* 7, 8, 4 */
+        int[][] wants = {{9999, 0}, {19, 0}, {18, 1}, {5, 1}, {4, 2}, {3, 2}, {2, 3}, {0, 3}};
+        for (int[] want : wants) {
+            due("backs " + want[0], x.backs(0, 0, want[0], false), want[1]);
+            due("how many " + want[0], x.backs(0, 0, want[0], true), Integer.bitCount(want[1]));
+        }
+        due("backs -1", x.backs(0, 0, -1, false), NONE);
+        due("backs 10000", x.backs(0, 0, 10000, true), NONE);
+        due("backs of none", x.backs(0, 2, 1, false), NONE);
+        due("backs of none", x.backs(1, 0, 1, false), NONE);
+        due("no geese", with("path 1 1 0;", "").backs(0, 0, 0, false), 0);
+    }
+
+    private static void close() {
+        GooseBorder x = with(BORDER, "");
+        due("close", x.close(0, false), 0);
+        due("apart", x.close(0, true), 0);
+        due("close of none", x.close(1, false), NONE);
+        due("one path", with("path 1 1 1;", "").close(0, false), NONE);
+        due("7 geese", with("path 1 1 1;path 1 1 1;" + "goose 1 0 0 0 0;".repeat(7), "").close(0, true), NONE);
+        GooseBorder three = with("path 1 1 0;path 1 9 0;path 1 1 0;goose 1 0 0 0 0;goose 1 0 0 0 0;", "");
+        due("without the second", three.close(0, false), 1);
+        due("then they are paid alike", three.close(0, true), 0);
+        due("they were not", three.even(0, 0), 1);
+        GooseBorder unlike = with("path 1 1 0;path 1 9 0;path 1 1 0;goose 4 4 0 0 0;", "");
+        due("of several the least", unlike.close(0, false), 0);
+        due("apart then", unlike.close(0, true), 8);
+    }
+
+    private static void near() {
+        GooseBorder x = dawn(BORDER, "left 0 11;left 1 26;left 4 9;left 3 0;");
+        due("near", x.near(0, 0, 0), 5);
+        due("near, not quite", x.near(0, 0, 1), 1);
+        due("no such path", x.near(0, 0, 2), NONE);
+        due("near 4", x.near(0, 0, 4), NONE);
+        due("near -1", x.near(0, 0, -1), NONE);
+        due("near of none", x.near(1, 0, 0), NONE);
+        due("near of none", x.near(0, 1, 0), NONE);
+        due("of several the least", dawn(BORDER, "left 0 2;").near(0, 0, 0), 0);
+        due("no geese", dawn("path 1 1 1;", "left 0 99;").near(0, 0, 0), 0);
+    }
+
+    private static void shift() {
+        GooseBorder x = with(BORDER, "march 0 0;march 1 0;rain 10;march 2 1;");
+        due("which ones", x.shift(0, 0, false), 1);
+        /* 8 marks and 10 by 1: 12 padded, 36 and 10 */
+        due("all pay then", x.shift(0, 0, true), 46);
+        due("shift of none", x.shift(1, 0, false), NONE);
+        due("shift of none", x.shift(0, 1, true), NONE);
+        due("nothing better", with(BORDER, "rain 10;march 0 0;").shift(0, 0, false), NONE);
+        due("nothing better", with(BORDER, "rain 10;march 0 0;").shift(0, 0, true), NONE);
+        due("one deed", with(BORDER, "march 0 0;").shift(0, 0, false), NONE);
+        due("stop no less", with(BORDER, "march 0 0;home 0 1;rain 10;").shift(0, 0, false), NONE);
+        due("both ahead of stop", with(BORDER, "march 0 0;rain 10;home 1 0;").shift(0, 0, false), 0);
+        due("only ahead of stop", with(BORDER, "march 0 0;home 1 0;rain 10;").shift(0, 0, false), NONE);
+        GooseBorder several = with("path 1 1 0;goose 1 0 0 0 0;goose 1 0 0 0 0;", "march 0 0;rain 10;rain 10;march 1 0;");
+        due("both rains ahead", several.shift(0, 0, false), NONE);
+        GooseBorder first = with("path 1 1 0;goose 1 0 1 0 0;", "frost;march 0 0;thaw;");
+        due("of several the first", first.shift(0, 0, false), 0);
+        due("of several the first, pay", first.shift(0, 0, true), 2);
+        GooseBorder most = with("path 1 1 0;goose 4 4 0 0 0;goose 1 1 0 0 0;", "march 1 0;rain 10;march 0 0;rain 10;");
+        due("the most, not the first", most.shift(0, 0, false), 2);
+        due("the most, not the first, pay", most.shift(0, 0, true), 8);
+        /* the fox takes another one, so that a later deed can be, and more is paid at the later end */
+        GooseBorder later = with("path 1 1 0;goose 1 0 0 0 0;goose 1 1 0 0 0;goose 4 4 0 0 0;",
+            "march 0 0;march 1 0;fox 0;recast 1 5;march 2 0;");
+        due("stop of it", later.stop(0, 0), 3);
+        due("stop grows", later.shift(0, 0, false), 0);
+        due("pay at the later end", later.shift(0, 0, true), 11);
+    }
+
+    private static void thrift() {
+        due("thrift", with(BORDER, "").thrift(0), 3);
+        due("thrift of none", with(BORDER, "").thrift(1), NONE);
+        due("a guard without a rate", with("path 1 0 9;goose 1 1 1 1 1;", "").thrift(0), NONE);
+        due("too few geese", with("path 1 1 0;path 1 1 0;goose 1 1 1 1 1;", "").thrift(0), NONE);
+        due("one leaves nothing", with("path 1 1 0;goose 0 0 0 0 0;goose 0 1 0 0 0;", "").thrift(0), 2);
+        due("boots for the short path only", with("path 1 1 0;path 2 1 0;goose 0 0 1 0 0;goose 0 0 0 0 0;goose 0 0 9 0 0;",
+            "").thrift(0), 5);
+        due("no paths", with("goose 1 1 1 1 1;", "").thrift(0), 0);
+    }
+
+    private static void images() {
+        GooseBorder x = Teller.told("cap 1;", "thaw;", "odd 1;", "left 0 1;");
+        CHECK.due("image -1", x.image(-1), false);
+        CHECK.due("image 3", x.image(3), false);
+        due("a fault", Teller.tell(x, 0, -1, "cap 9; x"), NONE);
+        Teller.feed(x, Teller.bytes("frost;"));
+        CHECK.due("image 2", x.image(2), true);
+        due("the tape goes on", x.text(1, 0), 0);
+        due("no fault", x.fault(0), 0);
+        for (int sort = 0; sort < 4; sort++) {
+            due("another", Teller.tell(x, sort, -1, ""), 1);
+            due("empty", Teller.tell(x, sort, 0, ""), 0);
+        }
+        CHECK.due("image 0", x.image(0), true);
+        CHECK.due("again 1", x.again(1), false);
+        for (int times = 0; times < 2; times++) {
+            CHECK.due("again 2", x.again(2), true);
+            due("fault again", x.fault(0), 1);
+            due("place again", x.fault(1), 7);
+            for (int sort = 0; sort < 4; sort++) {
+                due("count again", x.count(sort), 1);
+            }
+            due("cap again", x.border(0, 2), 1);
+            due("deed again", x.deed(0, 0, 0), 7);
+            due("term again", x.term(0, 0, 1), 1);
+            due("seen again", x.seen(0, 0, 1), 1);
+            due("tape again", x.end(6), 6);
+            due("tape again", x.text(1, -1), 1);
+            due("frost", x.deed(1, 0, 0), 6);
+            CHECK.due("again 0", x.again(0), true);
+            due("count of image 0", x.count(0), 2);
+            due("no deeds", x.deed(0, -1, 0), 0);
+        }
+        CHECK.due("image 0 anew", x.image(0), true);
+        CHECK.due("again -1", x.again(-1), false);
+        CHECK.due("again 3", x.again(3), false);
+    }
+}
