@@ -473,11 +473,11 @@ public final class GooseBorder {
         if (b == null || !Sharing.canShare(b) || b.paths() < 2) {
             return NONE;
         }
-        int least = Integer.MAX_VALUE;
+        int least = 0;
         int closed = NONE;
         for (int path = 0; path < b.paths(); path++) {
             sharing.solve(b, null, path);
-            if (sharing.difference() < least) {
+            if (closed == NONE || sharing.difference() < least) {
                 least = sharing.difference();
                 closed = path;
             }
@@ -751,19 +751,16 @@ public final class GooseBorder {
             cells[CAP] = NONE;
         }
 
-        @Override
         void clear() {
             cells[0] = 0;
             cells[1] = 0;
             cells[CAP] = NONE;
         }
 
-        @Override
         boolean hasRoomFor(int line) {
             return line == CAP_LINE || (line == PATH_LINE ? paths() < MOST_PATHS : geese() < MOST_GEESE);
         }
 
-        @Override
         void addLine(int line, int[] numbers) {
             if (!hasRoomFor(line)) {
                 return;
@@ -779,7 +776,6 @@ public final class GooseBorder {
             }
         }
 
-        @Override
         boolean clashes() {
             return false;
         }
@@ -910,17 +906,14 @@ public final class GooseBorder {
             this.firstLine = firstLine;
         }
 
-        @Override
         final void clear() {
             cells[0] = 0;
         }
 
-        @Override
         final boolean hasRoomFor(int line) {
             return size() < most;
         }
 
-        @Override
         final void addLine(int line, int[] told) {
             if (!hasRoomFor(line) || line < 0 || line >= LINES) {
                 return;
@@ -933,7 +926,6 @@ public final class GooseBorder {
             cells[0]++;
         }
 
-        @Override
         boolean clashes() {
             return false;
         }
@@ -1009,7 +1001,6 @@ public final class GooseBorder {
             super(MOST_SEEN, 2, FIRST_LINE[DAWNS]);
         }
 
-        @Override
         boolean clashes() {
             int paths = 0;
             for (int k = 0; k < size(); k++) {
@@ -1496,14 +1487,14 @@ public final class GooseBorder {
         /** Without a law: as even as may be; by a law: as much as may be. One path may be left out. */
         void solve(Border told, Law by, int without) {
             begin(told, by, without);
-            bestValue = Integer.MIN_VALUE;
+            bestValue = 0;
             int rows = 1;
             for (int goose = 0; goose < border.geese(); goose++) {
                 rows *= opened;
             }
             for (int i = 0; i < rows; i++) {
                 int value = law == null ? -spread() : together();
-                if (value > bestValue) {
+                if (i == 0 || value > bestValue) {
                     bestValue = value;
                     keepRow();
                 }
@@ -1618,9 +1609,9 @@ public final class GooseBorder {
         int evenest(Border b, int path, int other) {
             sumUp(b, path, sums);
             sumUp(b, other, others);
-            apart = Integer.MAX_VALUE;
+            apart = others[sets - 1];
             int found = 0;
-            for (int set = 0; set < sets; set++) {
+            for (int set = 1; set < sets; set++) {
                 int difference = Math.abs(sums[set] - others[sets - 1 - set]);
                 if (difference < apart) {
                     apart = difference;
@@ -1712,11 +1703,11 @@ public final class GooseBorder {
         }
 
         private void addGoing(int going) {
-            for (int set = 0; set < sets; set++) {
-                if ((set & going) == 0) {
-                    next[set | going] += ways[set];
-                }
+            int stayed = sets - 1 & ~going;
+            for (int set = stayed; set > 0; set = set - 1 & stayed) {
+                next[set | going] += ways[set];
             }
+            next[going] += ways[0];
         }
 
         long allWays() {

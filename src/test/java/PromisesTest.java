@@ -10,6 +10,7 @@ public final class PromisesTest {
     public static void main(String[] args) {
         newObject();
         tape();
+        cuts();
         texts();
         faults();
         borders();
@@ -90,6 +91,27 @@ public final class PromisesTest {
         due("the highest byte comes first", x.end(6), 6);
         due("cap 7", x.text(0, 0), 0);
         due("cap 7", x.border(0, 2), 7);
+    }
+
+    /** Bytes behind the end are no part of a text, and a full tape has none behind it. */
+    private static void cuts() {
+        String whole = "cap 12;march;";
+        GooseBorder x = new GooseBorder();
+        for (int n = 4; n <= 6; n++) {
+            Teller.feed(x, Teller.bytes(whole));
+            due("cut", x.end(n), n);
+            due("a cut text", x.text(0, -1), NONE);
+            due("its fault", x.fault(0), 1);
+            due("its place", x.fault(1), n);
+        }
+        for (String last : new String[] {"cap", "cap 9", "cap 999", "cap 999 ", "capcap", "cap 9999"}) {
+            due("full, up to " + last, Teller.tell(x, 0, -1, " ".repeat(600 - last.length()) + last), NONE);
+            due("its fault", x.fault(0), 1);
+            int place = last.equals("capcap") ? 594 : last.equals("cap 9999") ? 596 : 600;
+            due("its place", x.fault(1), place);
+        }
+        due("full", Teller.tell(x, 0, -1, "\n".repeat(592) + "cap 999;"), 0);
+        due("cap", x.border(0, 2), 999);
     }
 
     private static void texts() {

@@ -29,7 +29,7 @@ public final class RulesTest {
     private static final String[] FORBIDDEN = {"\\btry\\b", "\\bcatch\\b", "\\bthrow\\b", "\\bthrows\\b",
         "\\bsynchronized\\b", "\\bassert\\b", "->", "::", "\\bvar\\b", "Exact\\(", "\\bSystem\\.(?!arraycopy)",
         "\\bObject\\b", "\\bthread\\b", "\\bRandom\\b", "\\bstatic\\s*\\{", "\\bprotected\\b", "\\bdouble\\b",
-        "\\bfloat\\b", "\\bpackage\\b"};
+        "\\bfloat\\b", "\\bpackage\\b", "@", "M(AX|IN)_VALUE"};
 
     public static void main(String[] args) throws Exception {
         face();
