@@ -119,6 +119,9 @@ public final class GooseBorder {
     }
 
     public int text(int sort, int at) {
+        // the tape is taken by every call, also by one that reads no text
+        int length = now.length;
+        now.length = 0;
         now.fault = 0;
         now.place = NONE;
         if (sort < 0 || sort >= SORTS) {
@@ -130,8 +133,7 @@ public final class GooseBorder {
             return NO_SUCH;
         }
         Sheet draft = drafts[sort];
-        reader.read(now.tape, now.length, sort, draft);
-        now.length = 0;
+        reader.read(now.tape, length, sort, draft);
         now.fault = reader.fault;
         now.place = reader.place;
         if (now.fault != 0) {

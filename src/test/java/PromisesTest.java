@@ -12,6 +12,7 @@ public final class PromisesTest {
         tape();
         cuts();
         texts();
+        takenTapes();
         faults();
         borders();
         marks();
@@ -117,15 +118,16 @@ public final class PromisesTest {
     private static void texts() {
         GooseBorder x = new GooseBorder();
         due("in the place of none", Teller.tell(x, 0, 0, "cap 1;"), -2);
-        due("no text is read", x.end(6), 6);
-        due("no such sort", x.text(4, -1), -2);
-        due("no such sort", x.text(-1, -1), -2);
-        due("no such place", x.text(0, -2), -2);
-        due("first", x.text(0, -1), 0);
+        due("no such sort", Teller.tell(x, 4, -1, "cap 1;"), -2);
+        due("no such sort", Teller.tell(x, -1, -1, "cap 1;"), -2);
+        due("no such place", Teller.tell(x, 0, -2, "cap 1;"), -2);
+        due("none is told by these", x.count(0), 0);
+        due("first", Teller.tell(x, 0, -1, "cap 1;"), 0);
         due("second", Teller.tell(x, 0, -1, "cap 2;"), 1);
-        due("third", Teller.tell(x, 0, -1, "cap 3;"), -2);
-        due("place 2", x.text(0, 2), -2);
-        due("in its place", x.text(0, 0), 0);
+        due("third", Teller.tell(x, 0, -1, "cap 9;"), -2);
+        due("place 2", Teller.tell(x, 0, 2, "cap 9;"), -2);
+        due("the old one stays", x.border(0, 2), 1);
+        due("in its place", Teller.tell(x, 0, 0, "cap 3;"), 0);
         due("cap 3", x.border(0, 2), 3);
         due("cap 2", x.border(1, 2), 2);
         due("a fault", Teller.tell(x, 0, 1, "cap 5; cap;"), NONE);
@@ -142,6 +144,41 @@ public final class PromisesTest {
             due("third of " + sort, Teller.tell(x, sort, -1, ""), -2);
             due("count of " + sort, x.count(sort), 2);
         }
+    }
+
+    /** Every call of text() takes the tape, also one that reads no text; what an image has of it stays there. */
+    private static void takenTapes() {
+        int[][] none = {{0, 0}, {0, 1}, {0, -2}, {1, 0}, {3, 2}, {4, -1}, {4, 0}, {-1, -1},
+            {Integer.MIN_VALUE, -1}, {Integer.MAX_VALUE, 0}, {0, Integer.MIN_VALUE}, {0, Integer.MAX_VALUE}};
+        GooseBorder x = new GooseBorder();
+        for (int[] call : none) {
+            takenByNone(x, call[0], call[1]);
+        }
+        for (int sort = 0; sort < 4; sort++) {
+            due("first of " + sort, x.text(sort, -1), 0);
+            takenByNone(x, sort, 1);
+            due("second of " + sort, x.text(sort, -1), 1);
+            takenByNone(x, sort, -1);
+            takenByNone(x, sort, 2);
+        }
+        due("fed", x.feed(0x63617020, 0x353b2020, 0x20202020, 0x20202020, 0x20202020), 20);
+        CHECK.due("image", x.image(0), true);
+        due("no such sort", x.text(4, -1), -2);
+        due("the tape is empty", x.end(1), NONE);
+        CHECK.due("again", x.again(0), true);
+        due("the tape is back", x.text(0, 0), 0);
+        due("cap 5", x.border(0, 2), 5);
+    }
+
+    private static void takenByNone(GooseBorder x, int sort, int at) {
+        String name = "text " + sort + " " + at;
+        due("fed", x.feed(0x3b3b3b3b, 0, 0, 0, 0), 20);
+        due(name, x.text(sort, at), -2);
+        due("fault after " + name, x.fault(0), 0);
+        due("place after " + name, x.fault(1), NONE);
+        due("tape after " + name, x.end(1), NONE);
+        due("feed after " + name, x.feed(0, 0, 0, 0, 0), 20);
+        due("end after " + name, x.end(0), 0);
     }
 
     private static void fault(int sort, String text, int fault, int place) {
