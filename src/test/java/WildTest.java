@@ -51,7 +51,7 @@ public final class WildTest {
             }
             Method call = calls.get(r.nextInt(calls.size()));
             Object[] with = arguments(r, call);
-            long before = watched == 1 ? look(x) : 0;
+            long before = watched == 1 ? Look.at(x) : 0;
             try {
                 Object answer = call.invoke(x, with);
                 long told = answer instanceof Boolean b ? (b ? 1 : 0) : ((Number) answer).longValue();
@@ -61,35 +61,10 @@ public final class WildTest {
                     + e.getCause(), 1, 0);
             }
             if (watched == 1 && !CHANGING.contains(call.getName())) {
-                check.due("seed " + seed + ": state after " + call.getName(), look(x), before);
+                check.due("seed " + seed + ": state after " + call.getName(), Look.at(x), before);
             }
         }
         return all;
-    }
-
-    /** All that the small calls tell, as one number. */
-    private static long look(GooseBorder x) {
-        long all = x.fault(0) * 1000L + x.fault(1);
-        for (int n = 0; n < 2; n++) {
-            for (int what = 0; what < 90; what++) {
-                all = all * 31 + x.border(n, what);
-            }
-            for (int k = -1; k < 24; k++) {
-                for (int what = 0; what < 4; what++) {
-                    all = all * 31 + x.deed(n, k, what);
-                    all = all * 31 + x.term(n, k, what);
-                    all = all * 31 + x.seen(n, k, what);
-                }
-            }
-        }
-        for (int sort = 0; sort < 4; sort++) {
-            all = all * 31 + x.count(sort);
-        }
-        int length = 600;
-        while (length > 0 && x.end(length) < 0) {
-            length--;
-        }
-        return all * 31 + length;
     }
 
     private static void tellSome(GooseBorder x, Random r) {
