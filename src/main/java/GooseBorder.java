@@ -1444,7 +1444,7 @@ public final class GooseBorder {
 
         private int payTold(int padding, int path) {
             boolean pads = (padding >> path & 1) == 1;
-            return pads ? border.payOf(path, tally(path)) : border.rate(path) * tally(path);
+            return border.rate(path) * (pads ? border.padded(path, tally(path)) : tally(path));
         }
 
         int taken(int padding, int path) {

@@ -7,46 +7,156 @@ public final class PromisesTest {
     private static final String BORDER =
         "path 2 3 5; path 5 1 0; goose 3 2 1 0 10; goose 1 1 0 1 20; goose 4 4 9 0 30; cap 50;";
 
+    /* By paths 4, 6; 4, 12; 8, 12. */
+    private static final String THREE =
+        "path 2 1 0;path 3 1 0;goose 1 1 0 0 0;goose 4 4 2 0 0;goose 4 0 0 0 0;";
+    private static final String FOUR = "path 1 1 0;" + "goose 1 0 0 0 0;".repeat(3) + "goose 2 0 0 0 0;";
+    private static final String TOELESS = "path 1 1 0;".repeat(5) + "goose 0 0 0 0 0;".repeat(8);
+    private static final String ALL_SEEN = "left 0 0;left 1 0;left 2 0;left 3 0;left 4 0;";
+    private static final String PAID = "march 0 0;march 1 1;";
+    private static final String LAW = "each 2;above 20 5;most 45;below 3 7;odd 4;";
+
+    /** Of each promise: how many answers were asked for, and how many of them tell that there is none such. */
+    private static final int PROMISES = 39;
+    private static final int[] ASKED = new int[PROMISES + 1];
+    private static final int[] REFUSED = new int[PROMISES + 1];
+    private static int promise;
+    private static String name;
+
     public static void main(String[] args) {
-        newObject();
-        tape();
-        cuts();
-        texts();
-        takenTapes();
-        faults();
-        borders();
-        marks();
-        deeds();
-        stops();
-        carried();
-        rainAndFrost();
-        foxes();
-        worn();
-        laws();
-        even();
-        richest();
-        tar();
-        lame();
-        game();
-        seen();
-        fits();
-        lacks();
-        who();
-        drawn();
-        alikeAndSpan();
-        split();
-        two();
-        backs();
-        close();
-        near();
-        shift();
-        thrift();
-        images();
+        tapeAndTexts();
+        whatIsTold();
+        nights();
+        marches();
+        guardsAndDawns();
+        sets();
+        all();
+        for (int n = 1; n <= PROMISES; n++) {
+            CHECK.due("promise " + n + " is tried", ASKED[n] > REFUSED[n], true);
+            CHECK.due("promise " + n + " is tried with wrong calls", REFUSED[n] > 0, true);
+        }
         CHECK.finish();
     }
 
+    private static void tapeAndTexts() {
+        promise(1, "a new object");
+        newObject();
+        promise(2, "feed");
+        feed();
+        promise(3, "end");
+        end();
+        cuts();
+        promise(4, "text");
+        texts();
+        takenTapes();
+        promise(5, "fault");
+        faults();
+    }
+
+    private static void whatIsTold() {
+        promise(6, "border");
+        border();
+        promise(7, "marks");
+        marks();
+        promise(8, "deed");
+        deed();
+        promise(13, "term");
+        term();
+        promise(14, "pays");
+        pays();
+        promise(21, "seen");
+        seen();
+    }
+
+    private static void nights() {
+        promise(9, "stop");
+        stop();
+        promise(10, "goose");
+        goose();
+        promise(11, "path");
+        path();
+        promise(12, "state");
+        state();
+        foxes();
+        worn();
+        promise(25, "who");
+        who();
+        promise(35, "shift");
+        shift();
+    }
+
+    private static void marches() {
+        promise(15, "even");
+        even();
+        promise(16, "richest");
+        richest();
+        promise(17, "tar");
+        tar();
+        promise(18, "lame");
+        lame();
+        promise(31, "two");
+        two();
+        promise(33, "close");
+        close();
+    }
+
+    private static void guardsAndDawns() {
+        promise(19, "rest");
+        rest();
+        promise(20, "take");
+        take();
+        promise(29, "honest");
+        honest();
+        promise(22, "fits");
+        fits();
+        promise(23, "told");
+        told();
+        promise(24, "lacks");
+        lacks();
+        promise(34, "near");
+        near();
+    }
+
+    private static void sets() {
+        promise(26, "drawn");
+        drawn();
+        promise(27, "alike");
+        alike();
+        promise(28, "span");
+        span();
+        promise(30, "split");
+        split();
+        promise(32, "backs");
+        backs();
+        promise(36, "thrift");
+        thrift();
+    }
+
+    private static void all() {
+        promise(37, "count");
+        count();
+        promise(38, "image");
+        image();
+        promise(39, "again");
+        again();
+    }
+
+    /** The answers up to the next call of this are due by this promise. */
+    private static void promise(int number, String called) {
+        promise = number;
+        name = "promise " + number + " (" + called + "): ";
+    }
+
     private static void due(String call, long got, long want) {
-        CHECK.due(call, got, want);
+        ASKED[promise]++;
+        REFUSED[promise] += want < 0 ? 1 : 0;
+        CHECK.due(name + call, got, want);
+    }
+
+    private static void due(String call, boolean got, boolean want) {
+        ASKED[promise]++;
+        REFUSED[promise] += want ? 0 : 1;
+        CHECK.due(name + call, got, want);
     }
 
     private static GooseBorder with(String border, String night) {
@@ -58,40 +168,49 @@ public final class PromisesTest {
         for (int sort = 0; sort < 4; sort++) {
             due("count of a new one", x.count(sort), 0);
         }
-        due("count of sort 4", x.count(4), -2);
-        due("count of sort -1", x.count(-1), -2);
         due("tape of a new one", x.end(1), NONE);
         due("fault of a new one", x.fault(0), 0);
         due("place of a new one", x.fault(1), NONE);
-        due("fault 2", x.fault(2), NONE);
-        due("fault -1", x.fault(-1), NONE);
         for (int k = -1; k < 4; k++) {
-            CHECK.due("again " + k, x.again(k), false);
+            due("again " + k, x.again(k), false);
         }
         due("NONE", NONE, -1);
     }
 
-    private static void tape() {
+    private static void feed() {
         GooseBorder x = new GooseBorder();
         for (int i = 1; i <= 30; i++) {
             due("feed " + i, x.feed(0x20202020, 0x0a0a0a0a, 0x20202020, 0x0a200a20, 0x20202020), 20 * i);
         }
         due("feed of a full tape", x.feed(1, 2, 3, 4, 5), NONE);
-        due("end of all", x.end(600), 600);
-        due("end of more", x.end(601), NONE);
-        due("end below 0", x.end(-1), NONE);
-        due("end", x.end(581), 581);
-        due("feed of 21 too few", x.feed(0, 0, 0, 0, 0), NONE);
-        due("the tape stays", x.end(581), 581);
-        due("end of more than is left", x.end(582), NONE);
-        due("end", x.end(580), 580);
-        due("feed", x.feed(0x20202020, 0x20202020, 0x20202020, 0x20202020, 0x20202020), 600);
+        due("it has as many", x.end(600), 600);
+        due("581 are left", x.end(581), 581);
+        due("feed of 1 too many", x.feed(0, 0, 0, 0, 0), NONE);
+        due("nothing comes", x.end(582), NONE);
+        due("580 are left", x.end(580), 580);
+        due("feed up to all", x.feed(0x20202020, 0x20202020, 0x20202020, 0x20202020, 0x20202020), 600);
         due("blanks alone are a text", x.text(0, -1), 0);
-        due("the tape is empty", x.end(1), NONE);
         due("feed of an empty tape", x.feed(0x63617020, 0x373b8080, 0, 0, 0), 20);
-        due("the highest byte comes first", x.end(6), 6);
-        due("cap 7", x.text(0, 0), 0);
+        due("cut behind the text", x.end(6), 6);
+        due("the highest byte comes first", x.text(0, 0), 0);
         due("cap 7", x.border(0, 2), 7);
+    }
+
+    private static void end() {
+        GooseBorder x = new GooseBorder();
+        due("end of an empty tape", x.end(0), 0);
+        due("end of more than none", x.end(1), NONE);
+        due("fed", x.feed(0x63617020, 0x31323b78, 0, 0, 0), 20);
+        due("end of all", x.end(20), 20);
+        due("end of more", x.end(21), NONE);
+        due("end below 0", x.end(-1), NONE);
+        due("end below 0", x.end(Integer.MIN_VALUE), NONE);
+        due("the tape stays", x.end(20), 20);
+        due("end", x.end(7), 7);
+        due("end of more than is left", x.end(8), NONE);
+        due("its first bytes are a text", x.text(0, -1), 0);
+        due("cap 12", x.border(0, 2), 12);
+        due("the tape is empty", x.end(1), NONE);
     }
 
     /** Bytes behind the end are no part of a text, and a full tape has none behind it. */
@@ -162,10 +281,10 @@ public final class PromisesTest {
             takenByNone(x, sort, 2);
         }
         due("fed", x.feed(0x63617020, 0x353b2020, 0x20202020, 0x20202020, 0x20202020), 20);
-        CHECK.due("image", x.image(0), true);
+        due("image", x.image(0), true);
         due("no such sort", x.text(4, -1), -2);
         due("the tape is empty", x.end(1), NONE);
-        CHECK.due("again", x.again(0), true);
+        due("again", x.again(0), true);
         due("the tape is back", x.text(0, 0), 0);
         due("cap 5", x.border(0, 2), 5);
     }
@@ -189,6 +308,10 @@ public final class PromisesTest {
     }
 
     private static void faults() {
+        GooseBorder x = new GooseBorder();
+        for (int what : new int[] {-2, -1, 2, 3, Integer.MIN_VALUE, Integer.MAX_VALUE}) {
+            due("fault " + what, x.fault(what), NONE);
+        }
         fault(0, "path2 3 5;goose1 2 3 1 9;cap9;", 0, NONE);
         fault(0, "path 020 009 9\n;", 0, NONE);
         fault(0, "path 20 9 9", 1, 11);
@@ -238,7 +361,7 @@ public final class PromisesTest {
         fault(3, "left 0 1;left 1 1;left 2 1;left 3 1;left 4 1;left 0 1;", 3, 45);
     }
 
-    private static void borders() {
+    private static void border() {
         GooseBorder x = with("path 20 9 8;path 1 0 7;goose 4 3 60 1 99;goose 0 1 2 0 5;cap 9;cap 8;", "");
         int[][] wants = {{0, 2}, {1, 2}, {2, 8}, {10, 20}, {11, 1}, {20, 9}, {21, 0}, {30, 8}, {31, 7}, {40, 4},
             {41, 0}, {50, 3}, {51, 1}, {60, 60}, {61, 2}, {70, 1}, {71, 0}, {80, 99}, {81, 5}};
@@ -268,7 +391,7 @@ public final class PromisesTest {
         }
     }
 
-    private static void deeds() {
+    private static void deed() {
         String night = "march 1 2;back 3 4;home 5 0;carry 7 6 1;recast 2 33;rain 10;frost;thaw;fox 4;";
         GooseBorder x = with("", night);
         int[][] wants = {{0, 1, 2, -1}, {1, 3, 4, -1}, {2, 5, 0, -1}, {3, 7, 6, 1}, {4, 2, 33, -1}, {5, 10, -1, -1},
@@ -289,7 +412,7 @@ public final class PromisesTest {
         return with(BORDER, night).stop(0, 0);
     }
 
-    private static void stops() {
+    private static void stop() {
         due("no deeds", stopOf(""), 0);
         due("all", stopOf("march 0 0;home 0 1;back 0 0;home 0 0;march 0 1;"), 5);
         due("no such goose", stopOf("rain 1;march 3 0;"), 1);
@@ -313,59 +436,83 @@ public final class PromisesTest {
         due("stop of none", x.stop(1, 0), NONE);
         due("stop of none", x.stop(0, 1), NONE);
         due("stop of none", x.stop(-1, 0), NONE);
-        due("state behind stop", x.state(0, 0, 1, 0), 6);
-        due("state beyond stop", x.state(0, 0, 2, 0), -2);
-        due("state below 0", x.state(0, 0, -1, 0), -2);
-        due("state what", x.state(0, 0, 0, 9), -2);
-        due("state what", x.state(0, 0, 0, -1), -2);
-        due("goose beyond stop", x.goose(0, 0, 2, 0, 0), -2);
-        due("goose what", x.goose(0, 0, 1, 0, 4), -2);
-        due("goose 3", x.goose(0, 0, 1, 3, 0), -2);
-        due("path beyond stop", x.path(0, 0, 2, 0, 0), -2);
-        due("path what", x.path(0, 0, 1, 0, 6), -2);
-        due("path 2", x.path(0, 0, 1, 2, 0), -2);
-        due("path of no border", x.path(1, 0, 1, 0, 0), -2);
-        due("goose of no night", x.goose(0, 1, 1, 0, 0), -2);
     }
 
-    private static void carried() {
-        GooseBorder x = with(BORDER, "carry 2 0 1;home 0 0;");
+    private static void goose() {
+        GooseBorder x = with(BORDER, "carry 2 0 1;home 0 0;march 2 0;");
         due("who carries is over", x.goose(0, 0, 1, 2, 0), 1);
         due("who is carried is over", x.goose(0, 0, 1, 0, 0), 1);
+        due("who stays is home", x.goose(0, 0, 1, 1, 0), 0);
+        due("who comes back is home", x.goose(0, 0, 2, 0, 0), 0);
         due("who carries wears boots", x.goose(0, 0, 1, 2, 1), 4);
         due("who is carried wears none", x.goose(0, 0, 1, 0, 1), 1);
+        due("who goes home wears them", x.goose(0, 0, 2, 0, 1), 0);
         due("who carries leaves", x.goose(0, 0, 1, 2, 2), 10);
         due("who is carried leaves nothing", x.goose(0, 0, 1, 0, 2), 0);
+        due("going home is of the trail", x.goose(0, 0, 2, 0, 2), 7);
         due("who is carried went, too", x.goose(0, 0, 1, 0, 3), 1);
+        due("the latest path", x.goose(0, 0, 2, 0, 3), 0);
         due("who has not gone", x.goose(0, 0, 1, 1, 3), NONE);
-        due("marks", x.path(0, 0, 1, 1, 0), 10);
-        due("exports of going home", x.path(0, 0, 2, 0, 1), 7);
-        due("no tally below 0", x.path(0, 0, 2, 0, 2), 0);
-        due("home", x.state(0, 0, 2, 0), 3);
-        due("worth of who is home", x.state(0, 0, 2, 3), 30);
-        due("worth of who is over", x.state(0, 0, 2, 4), 30);
-        due("nobody is eaten", x.state(0, 0, 2, 5), 0);
+        due("who is eaten", with(BORDER, "march 0 0;fox 0;").goose(0, 0, 2, 0, 0), 2);
+        due("beyond stop", x.goose(0, 0, 3, 0, 0), -2);
+        due("below 0", x.goose(0, 0, -1, 0, 0), -2);
+        due("what 4", x.goose(0, 0, 1, 0, 4), -2);
+        due("what -1", x.goose(0, 0, 1, 0, -1), -2);
+        due("goose 3", x.goose(0, 0, 1, 3, 0), -2);
+        due("goose -1", x.goose(0, 0, 1, -1, 0), -2);
+        due("of no night", x.goose(0, 1, 1, 0, 0), -2);
+        due("of no border", x.goose(1, 0, 1, 0, 0), -2);
     }
 
-    private static void rainAndFrost() {
-        GooseBorder x = with(BORDER, "march 1 0;back 0 0;rain 3;frost;march 2 1;thaw;home 1 1;rain 10;");
+    private static void path() {
+        GooseBorder x = with(BORDER, "march 1 0;back 0 0;rain 3;frost;march 2 1;thaw;home 1 1;rain 10;march 2 0;");
         due("marks", x.path(0, 0, 2, 0, 0), 8);
         due("exports", x.path(0, 0, 2, 0, 1), 7);
         due("tally", x.path(0, 0, 2, 0, 2), 1);
         due("marks in rain", x.path(0, 0, 3, 0, 0), 6);
         due("exports in rain", x.path(0, 0, 3, 0, 1), 5);
         due("washed away", x.path(0, 0, 3, 0, 5), 4);
-        due("frost", x.state(0, 0, 4, 8), 1);
         due("boots leave nothing in frost", x.path(0, 0, 5, 1, 0), 0);
         due("boots wear in frost", x.goose(0, 0, 5, 2, 1), 4);
-        due("thaw", x.state(0, 0, 6, 8), 0);
         due("no frost", x.path(0, 0, 7, 1, 1), 20);
+        due("no tally below 0", x.path(0, 0, 7, 1, 2), 0);
         due("trail of all", x.goose(0, 0, 7, 1, 2), 28);
         due("all washed away", x.path(0, 0, 8, 1, 5), 20);
         due("all washed away", x.path(0, 0, 8, 0, 5), 15);
         due("the trail stays", x.goose(0, 0, 8, 1, 2), 28);
-        due("padded", with(BORDER, "march 0 0;").path(0, 0, 1, 0, 3), 10);
-        due("pay", with(BORDER, "march 0 0;march 1 1;").state(0, 0, 2, 7), 50);
+        GooseBorder paid = with(BORDER, "march 0 0;march 1 1;");
+        due("padded", paid.path(0, 0, 1, 0, 3), 10);
+        due("pay", paid.path(0, 0, 1, 0, 4), 30);
+        due("padded by none", paid.path(0, 0, 2, 1, 3), 20);
+        due("carried, so one leaves marks", with(BORDER, "carry 2 0 1;").path(0, 0, 1, 1, 0), 10);
+        due("beyond stop", x.path(0, 0, 9, 0, 0), -2);
+        due("below 0", x.path(0, 0, -1, 0, 0), -2);
+        due("what 6", x.path(0, 0, 1, 0, 6), -2);
+        due("what -1", x.path(0, 0, 1, 0, -1), -2);
+        due("path 2", x.path(0, 0, 1, 2, 0), -2);
+        due("path -1", x.path(0, 0, 1, -1, 0), -2);
+        due("of no border", x.path(1, 0, 1, 0, 0), -2);
+        due("of no night", x.path(0, 1, 1, 0, 0), -2);
+    }
+
+    private static void state() {
+        GooseBorder x = with(BORDER, "frost;carry 2 0 1;thaw;home 0 0;march 2 0;");
+        due("all are home at first", x.state(0, 0, 0, 0), 7);
+        due("frost", x.state(0, 0, 1, 8), 1);
+        due("thaw", x.state(0, 0, 3, 8), 0);
+        due("home", x.state(0, 0, 4, 0), 3);
+        due("over", x.state(0, 0, 4, 1), 4);
+        due("nobody is eaten", x.state(0, 0, 4, 2), 0);
+        due("worth of who is home", x.state(0, 0, 4, 3), 30);
+        due("worth of who is over", x.state(0, 0, 4, 4), 30);
+        due("worth of nobody", x.state(0, 0, 4, 5), 0);
+        due("all pay", with(BORDER, "march 0 0;march 1 1;").state(0, 0, 2, 7), 50);
+        due("beyond stop", x.state(0, 0, 5, 0), -2);
+        due("below 0", x.state(0, 0, -1, 0), -2);
+        due("what 9", x.state(0, 0, 0, 9), -2);
+        due("what -1", x.state(0, 0, 0, -1), -2);
+        due("of no border", x.state(1, 0, 0, 0), -2);
+        due("of no night", x.state(0, 1, 0, 0), -2);
     }
 
     private static void foxes() {
@@ -394,8 +541,8 @@ public final class PromisesTest {
         due("recast boots leave marks", x.path(0, 0, 5, 0, 1), 4);
     }
 
-    private static void laws() {
-        GooseBorder x = Teller.told(null, null, "each 2;above 20 5;most 45;below 3 7;odd 4;", null);
+    private static void pays() {
+        GooseBorder x = Teller.told(null, null, LAW, null);
         int[][] wants = {{0, 7}, {1, 13}, {2, 11}, {3, 10}, {20, 40}, {21, 49}, {22, 45}, {9999, 49}};
         for (int[] want : wants) {
             due("pays " + want[0], x.pays(0, want[0]), want[1]);
@@ -403,6 +550,11 @@ public final class PromisesTest {
         due("pays -1", x.pays(0, -1), NONE);
         due("pays 10000", x.pays(0, 10000), NONE);
         due("pays by none", x.pays(1, 0), NONE);
+        due("no terms", Teller.told(null, null, "", null).pays(0, 9), 0);
+    }
+
+    private static void term() {
+        GooseBorder x = Teller.told(null, null, LAW, null);
         int[][] terms = {{0, 2, -1}, {1, 20, 5}, {4, 45, -1}, {2, 3, 7}, {3, 4, -1}};
         due("terms", x.term(0, -1, 0), 5);
         for (int k = 0; k < 5; k++) {
@@ -414,7 +566,6 @@ public final class PromisesTest {
         for (int[] w : wrong) {
             due("term of none", x.term(w[0], w[1], w[2]), -2);
         }
-        due("no terms", Teller.told(null, null, "", null).pays(0, 9), 0);
     }
 
     private static void even() {
@@ -486,9 +637,8 @@ public final class PromisesTest {
         due("goose 8 is none: of the path", other.lame(0, 1, 8), 0);
     }
 
-    private static void game() {
-        String night = "march 0 0;march 1 1;";
-        GooseBorder x = with(BORDER, night);
+    private static void rest() {
+        GooseBorder x = with(BORDER, PAID);
         due("rest", x.rest(0, 0, -1), 2);
         due("rest 0", x.rest(0, 0, 0), 1);
         due("rest 1", x.rest(0, 0, 1), 3);
@@ -496,6 +646,16 @@ public final class PromisesTest {
         due("rest -2", x.rest(0, 0, -2), -2);
         due("rest of none", x.rest(1, 0, -1), -2);
         due("rest of none", x.rest(0, 1, -1), -2);
+        GooseBorder caught = with(BORDER.replace("50", "49"), PAID);
+        due("rest is not to pad", caught.rest(0, 0, -1), 2);
+        due("rest is not to pad", caught.rest(0, 0, 0), 0);
+        due("rest is not to pad", caught.rest(0, 0, 1), 2);
+        due("no paths", with("", "").rest(0, 0, -1), 1);
+        due("no paths", with("", "").rest(0, 0, 0), 0);
+    }
+
+    private static void take() {
+        GooseBorder x = with(BORDER, PAID);
         due("take", x.take(0, 0, 1, 0), 30);
         due("take", x.take(0, 0, 0, 0), 21);
         due("take of set 4", x.take(0, 0, 4, 0), NONE);
@@ -503,17 +663,16 @@ public final class PromisesTest {
         due("take of path 2", x.take(0, 0, 0, 2), NONE);
         due("take of none", x.take(1, 0, 0, 0), NONE);
         due("take of none", x.take(0, 1, 0, 0), NONE);
-        GooseBorder caught = with(BORDER.replace("50", "49"), night);
+        GooseBorder caught = with(BORDER.replace("50", "49"), PAID);
         due("above the cap", caught.take(0, 0, 1, 0), 0);
         due("who does not pad gets his", caught.take(0, 0, 1, 1), 20);
-        due("rest is not to pad", caught.rest(0, 0, -1), 2);
-        due("rest is not to pad", caught.rest(0, 0, 0), 0);
-        due("rest is not to pad", caught.rest(0, 0, 1), 2);
-        GooseBorder free = with(BORDER.replace("cap 50;", ""), night);
+        GooseBorder free = with(BORDER.replace("cap 50;", ""), PAID);
         due("no cap", free.take(0, 0, 3, 0), 30);
-        due("cap 0", with(BORDER.replace("50", "0"), night).take(0, 0, 3, 1), 0);
-        due("no paths", with("", "").rest(0, 0, -1), 1);
-        due("no paths", with("", "").rest(0, 0, 0), 0);
+        due("cap 0", with(BORDER.replace("50", "0"), PAID).take(0, 0, 3, 1), 0);
+    }
+
+    private static void honest() {
+        GooseBorder x = with(BORDER, PAID);
         due("honest", x.honest(0, 0, 0), 9);
         due("honest without a pad", x.honest(0, 0, 1), 0);
         due("honest of none", x.honest(0, 0, 2), NONE);
@@ -543,6 +702,16 @@ public final class PromisesTest {
         due("fits", x.fits(0, 0), 1);
         due("fits of none", x.fits(1, 0), NONE);
         due("fits of none", x.fits(0, 1), NONE);
+        due("no way", dawn(BORDER, "left 0 5;left 1 10;").fits(0, 0), 0);
+        due("several ways", dawn(FOUR, "left 0 2;").fits(0, 0), 4);
+        due("all ways there are", dawn(TOELESS, ALL_SEEN).fits(0, 0), 1679616);
+        due("nothing is seen", dawn(BORDER, "").fits(0, 0), 1);
+        due("a path that is not there", dawn(BORDER, "left 3 1;").fits(0, 0), 0);
+        due("a path that is not there, with nothing", dawn(BORDER, "left 3 0;").fits(0, 0), 1);
+    }
+
+    private static void told() {
+        GooseBorder x = dawn(BORDER, "left 0 11;left 1 20;");
         due("fewest", x.told(0, 0, 0), 3);
         due("most", x.told(0, 0, 1), 3);
         due("sure", x.told(0, 0, 2), 7);
@@ -555,26 +724,18 @@ public final class PromisesTest {
         due("told of none", x.told(1, 0, 3), -2);
         due("told of none", x.told(0, 1, 3), -2);
         GooseBorder none = dawn(BORDER, "left 0 5;left 1 10;");
-        due("no way", none.fits(0, 0), 0);
         due("no way", none.told(0, 0, 0), -2);
         due("no way", none.told(0, 0, 10), -2);
         due("but toe", none.told(0, 0, 3), 2);
         due("no toe", dawn(BORDER, "left 0 1;").told(0, 0, 3), NONE);
-        GooseBorder three = dawn("path 1 1 0;" + "goose 1 0 0 0 0;".repeat(3) + "goose 2 0 0 0 0;", "left 0 2;");
-        due("several ways", three.fits(0, 0), 4);
-        due("fewest", three.told(0, 0, 0), 1);
-        due("most", three.told(0, 0, 1), 2);
-        due("sure", three.told(0, 0, 2), 0);
-        due("by", three.told(0, 0, 13), 1);
-        GooseBorder toeless = dawn("path 1 1 0;".repeat(5) + "goose 0 0 0 0 0;".repeat(8),
-            "left 0 0;left 1 0;left 2 0;left 3 0;left 4 0;");
-        due("all ways there are", toeless.fits(0, 0), 1679616);
-        due("by any path", toeless.told(0, 0, 17), 31);
-        due("nothing is seen", dawn(BORDER, "").fits(0, 0), 1);
+        GooseBorder several = dawn(FOUR, "left 0 2;");
+        due("fewest", several.told(0, 0, 0), 1);
+        due("most", several.told(0, 0, 1), 2);
+        due("sure", several.told(0, 0, 2), 0);
+        due("by", several.told(0, 0, 13), 1);
+        due("by any path", dawn(TOELESS, ALL_SEEN).told(0, 0, 17), 31);
         due("nobody went", dawn(BORDER, "").told(0, 0, 1), 0);
-        due("a path that is not there", dawn(BORDER, "left 3 1;").fits(0, 0), 0);
-        due("a path that is not there, with nothing", dawn(BORDER, "left 3 0;").fits(0, 0), 1);
-        due("nobody goes by it", dawn(BORDER, "left 3 0;").told(0, 0, 10), 0);
+        due("nobody goes by what is not there", dawn(BORDER, "left 3 0;").told(0, 0, 10), 0);
     }
 
     private static void lacks() {
@@ -627,9 +788,8 @@ public final class PromisesTest {
         due("boots as new", with("path 1 1 9;goose 4 4 1 0 0;", "").drawn(0, -5, 20, 20), 40);
     }
 
-    private static void alikeAndSpan() {
-        GooseBorder x = with("path 2 1 0;path 3 1 0;goose 1 1 0 0 0;goose 4 4 2 0 0;goose 4 0 0 0 0;", "");
-        /* by paths: 4, 6; 4, 12; 8, 12 */
+    private static void alike() {
+        GooseBorder x = with(THREE, "");
         due("alike 0 1", x.alike(0, 0, 1), 1);
         due("alike 2 1", x.alike(0, 2, 1), 2);
         due("alike 0 2", x.alike(0, 0, 2), 0);
@@ -637,6 +797,10 @@ public final class PromisesTest {
         due("alike 0 3", x.alike(0, 0, 3), NONE);
         due("alike -1 0", x.alike(0, -1, 0), NONE);
         due("alike of none", x.alike(1, 0, 1), NONE);
+    }
+
+    private static void span() {
+        GooseBorder x = with(THREE, "");
         due("span 0", x.span(0, 1, 0, true), 0);
         due("span 1", x.span(0, 1, 1, false), 6);
         due("span 1, most", x.span(0, 1, 1, true), 12);
@@ -771,23 +935,59 @@ public final class PromisesTest {
         due("no paths", with("goose 1 1 1 1 1;", "").thrift(0), 0);
     }
 
-    private static void images() {
+    private static void count() {
+        GooseBorder x = new GooseBorder();
+        for (int sort = 0; sort < 4; sort++) {
+            due("none of " + sort, x.count(sort), 0);
+            due("first of " + sort, Teller.tell(x, sort, -1, ""), 0);
+            due("one of " + sort, x.count(sort), 1);
+            due("in its place", Teller.tell(x, sort, 0, ""), 0);
+            due("still one of " + sort, x.count(sort), 1);
+            due("a fault", Teller.tell(x, sort, -1, "x"), NONE);
+            due("still one of " + sort, x.count(sort), 1);
+            due("second of " + sort, Teller.tell(x, sort, -1, ""), 1);
+            due("two of " + sort, x.count(sort), 2);
+        }
+        for (int sort : new int[] {-2, -1, 4, 5, Integer.MIN_VALUE, Integer.MAX_VALUE}) {
+            due("count of sort " + sort, x.count(sort), -2);
+        }
+    }
+
+    private static void image() {
+        GooseBorder x = new GooseBorder();
+        for (int k : new int[] {-2, -1, 3, 4, Integer.MIN_VALUE, Integer.MAX_VALUE}) {
+            due("image " + k, x.image(k), false);
+        }
+        for (int k = 0; k < 3; k++) {
+            due("cap", Teller.tell(x, 0, k == 0 ? -1 : 0, "cap " + k + ";"), 0);
+            due("image " + k, x.image(k), true);
+        }
+        due("cap as told last", x.border(0, 2), 2);
+        for (int k = 0; k < 3; k++) {
+            due("again " + k, x.again(k), true);
+            due("cap of image " + k, x.border(0, 2), k);
+        }
+        due("image 0 anew", x.image(0), true);
+        due("again 1", x.again(1), true);
+        due("again 0", x.again(0), true);
+        due("cap of the later image 0", x.border(0, 2), 2);
+    }
+
+    private static void again() {
         GooseBorder x = Teller.told("cap 1;", "thaw;", "odd 1;", "left 0 1;");
-        CHECK.due("image -1", x.image(-1), false);
-        CHECK.due("image 3", x.image(3), false);
         due("a fault", Teller.tell(x, 0, -1, "cap 9; x"), NONE);
         Teller.feed(x, Teller.bytes("frost;"));
-        CHECK.due("image 2", x.image(2), true);
+        due("image 2", x.image(2), true);
         due("the tape goes on", x.text(1, 0), 0);
         due("no fault", x.fault(0), 0);
         for (int sort = 0; sort < 4; sort++) {
             due("another", Teller.tell(x, sort, -1, ""), 1);
             due("empty", Teller.tell(x, sort, 0, ""), 0);
         }
-        CHECK.due("image 0", x.image(0), true);
-        CHECK.due("again 1", x.again(1), false);
+        due("image 0", x.image(0), true);
+        due("again 1", x.again(1), false);
         for (int times = 0; times < 2; times++) {
-            CHECK.due("again 2", x.again(2), true);
+            due("again 2", x.again(2), true);
             due("fault again", x.fault(0), 1);
             due("place again", x.fault(1), 7);
             for (int sort = 0; sort < 4; sort++) {
@@ -800,12 +1000,12 @@ public final class PromisesTest {
             due("tape again", x.end(6), 6);
             due("tape again", x.text(1, -1), 1);
             due("frost", x.deed(1, 0, 0), 6);
-            CHECK.due("again 0", x.again(0), true);
+            due("again 0", x.again(0), true);
             due("count of image 0", x.count(0), 2);
             due("no deeds", x.deed(0, -1, 0), 0);
         }
-        CHECK.due("image 0 anew", x.image(0), true);
-        CHECK.due("again -1", x.again(-1), false);
-        CHECK.due("again 3", x.again(3), false);
+        due("image 0 anew", x.image(0), true);
+        due("again -1", x.again(-1), false);
+        due("again 3", x.again(3), false);
     }
 }

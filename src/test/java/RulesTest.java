@@ -31,6 +31,9 @@ public final class RulesTest {
         "\\bObject\\b", "\\bthread\\b", "\\bRandom\\b", "\\bstatic\\s*\\{", "\\bprotected\\b", "\\bdouble\\b",
         "\\bfloat\\b", "\\bpackage\\b", "@", "M(AX|IN)_VALUE"};
 
+    private static final Set<String> LIBRARY = Set.of("Arrays.fill", "System.arraycopy", "Integer.bitCount", "Math.abs",
+        "Math.max", "Math.min");
+
     public static void main(String[] args) throws Exception {
         face();
         for (Class<?> inside : GooseBorder.class.getDeclaredClasses()) {
@@ -89,12 +92,27 @@ public final class RulesTest {
         }
     }
 
+    /** Rule 4: of the library's static functions only some, and one import for them. */
+    private static void library(String code) {
+        Matcher called = Pattern.compile("\\b([A-Z]\\w*)\\.([a-z]\\w*)\\(").matcher(code);
+        while (called.find()) {
+            String name = called.group(1) + "." + called.group(2);
+            boolean own = name.equals("Sharing.canShare");
+            CHECK.due(name + " is of the library that may be used", own || LIBRARY.contains(name), true);
+        }
+        Matcher brought = Pattern.compile("(?m)^import (.*);").matcher(code);
+        while (brought.find()) {
+            CHECK.due("import of " + brought.group(1), brought.group(1).equals("java.util.Arrays"), true);
+        }
+    }
+
     private static void source(String text) {
         String code = text.replaceAll("(?s)/\\*.*?\\*/", "").replaceAll("//[^\n]*", "");
         for (String forbidden : FORBIDDEN) {
             Matcher m = Pattern.compile(forbidden).matcher(code);
             CHECK.due("'" + forbidden + "' stands in the source", m.find(), false);
         }
+        library(code);
         for (int i = 0; i < text.length(); i++) {
             if (text.charAt(i) > 126) {
                 CHECK.due("a sign above 126 at " + i, 1, 0);
